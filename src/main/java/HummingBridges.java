@@ -152,8 +152,9 @@ public final class HummingBridges {
         if (outside(text, 0, now.texts - 1)) return OTHERS;
         Score score = scores[text];
         for (int i = 0; i < score.clauses; i++) {
+            int kind = score.kinds[i];
             int first = score.firsts[i];
-            boolean done = score.kinds[i] == Tape.HOUR ? havePassed(first) : isDone(score.kinds[i], first, score.seconds[i]);
+            boolean done = kind == Tape.HOUR ? havePassed(first) : isDone(kind, first, score.seconds[i]);
             if (!done) return i;
         }
         return NONE;
@@ -983,11 +984,10 @@ public final class HummingBridges {
             return 0;
         }
 
-        /** A ONE is whole: so is each - that waited for it. */
+        /** A ONE is whole; a - that waited for it is written with whatever comes next, as nothing holds more tightly. */
         private void endOne() {
             wantsOne = false;
             atAsk = false;
-            writeDownTo(rank(Tape.NEGATE));
         }
 
         private int takeJoint(int token) {
@@ -1012,7 +1012,6 @@ public final class HummingBridges {
             if (height > 0) height--;
             parens--;
             depth--;
-            endOne();
             return 0;
         }
 
@@ -1181,7 +1180,8 @@ public final class HummingBridges {
 
         void hearAll() {
             for (int bridge = 0; bridge < valley.bridges; bridge++) {
-                notes[bridge] = noteStrung(bridge, valley.row[Valley.STRING + bridge], valley.borne(bridge), valley.countOn(bridge));
+                int strung = valley.row[Valley.STRING + bridge];
+                notes[bridge] = noteStrung(bridge, strung, valley.borne(bridge), valley.countOn(bridge));
             }
         }
 
@@ -1708,13 +1708,12 @@ public final class HummingBridges {
             this.ear = ear;
         }
 
-        /** The lowest LOAD by which the one who begins wins. */
+        /** The lowest LOAD by which the one who begins wins; the NOTES listened to are as all stands. */
         int winningLoad(int one, int other, int set) {
             count = listed(set, members);
             seat(0, one);
             seat(1, other);
             opening = NONE;
-            ear.hearAll();
             wins(0, 0);
             return opening;
         }

@@ -7,6 +7,8 @@ public final class AsksTest {
     planned();
     planAround();
     planByHour();
+    planEnds();
+    howMany();
     sharing();
     sharingInParts();
     retuning();
@@ -152,6 +154,64 @@ public final class AsksTest {
     x.hour(1);
     T.due("24: in five", x.plan(2, 1, 1), 5);
     T.due("24: over in six", x.plan(2, 1, -1), 6);
+  }
+
+  private static void planEnds() {
+    // Standers that are FALSE from hour 2 on: what is behind the last hour isn't asked.
+    HummingBridges x = bridges(10, 2, 11, 2, 12, 9, 13, 1);
+    x.ears(0, 1);
+    x.stand(0, 1);
+    x.stand(1, 1);
+    loads(x, 5, 5);
+    rule(x, "tune hour<2;");
+    T.due("24: two hours are in tune", x.plan(1, 0, -1), 2);
+    T.due("24: nine aren't", x.plan(1, 2, -1), -1);
+    rule(x, "tune 1<2;");
+    T.due("24: at once", x.plan(1, 2, -1), 9);
+    HummingBridges y = bridges(10, 9, 10, 9);
+    y.ears(0, 1);
+    y.stand(1, 1);
+    loads(y, 5);
+    rule(y, "tune hour>4;");
+    T.due("24: the longest", y.plan(1, 0, -1), 14);
+    T.due("24: as late as can be", y.plan(1, 0, 0), 5);
+  }
+
+  /** many counts in all that is asked of loads that would be on. */
+  private static void howMany() {
+    HummingBridges x = bridges(10, 2, 20, 2);
+    x.ears(0, 1);
+    loads(x, 1, 1, 1, 1, 1, 1);
+    x.go(0, 0);
+    // Sounds 10 with one load on, 20 with two, 30 with three: in tune are those of like number only.
+    rule(x, "note many*10;tune up=1;toll many;");
+    x.stand(1, 1);
+    T.due("24: one each, or 1 to 10", x.plan(2, 1, -1), 2);
+    T.due("24: FALSE at once if it waits", x.plan(2, 1, 1), 0);
+    T.due("24: two on the second, one behind the other", x.plan(6, 7, -1), 4);
+    T.due("24: two on each", x.plan(14, 1 * 6 + 1 * 36, -1), 2);
+    x.stand(1, 0);
+    T.due("25: a part is one more", x.shared(5, 2, -1), 1);
+    T.due("25: two to none", x.shared(5, 1, 0), 5);
+    x.go(1, 1);
+    T.due("25: two to one", x.shared(5, 1, -1), -1);
+    T.due("25: two to two", x.shared(5, 3, 0), 1);
+    x.heard(0, 30);
+    T.due("30: two more on the first", x.worlds(28, -1, 0), 6);
+    T.due("31: the second tells more", x.listen(28), 1);
+    T.due("34: two to one at once", x.game(0, 1, 12, false), 0);
+    rule(x, "note many*10;tune up-down<=down;toll many;");
+    T.due("34: two to one, two to two, two for the one who can't go on", x.game(0, 1, 12, false), 1);
+    T.due("34: three to two to three", x.game(0, 1, 60, false), 1);
+    rule(x, "note many*10;tune high<30;toll many;");
+    T.due("34: who puts the third", x.game(0, 1, 60, false), 0);
+    T.due("34: by none", x.game(0, 1, 60, true), -1);
+    T.due("35: one more", x.toll(2, 1), 2);
+    T.due("36: apart", x.rest(12, 2), 0);
+    T.due("36: apart", x.rest(12, 3), 1);
+    x.undo();
+    T.due("36: the empty one", x.rest(12, 2), 1);
+    T.due("36: as many then: the lowest", x.rest(12, 3), 0);
   }
 
   private static void sharing() {

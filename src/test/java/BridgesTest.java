@@ -20,6 +20,7 @@ public final class BridgesTest {
     takingBackWhatWasToldSince();
     thirtySteps();
     fortyFalls();
+    fallOfTheHighest();
     twos();
     about();
     T.finish("BridgesTest");
@@ -377,6 +378,12 @@ public final class BridgesTest {
       x.stand(1, 1);
     }
     T.due("22: forty", x.fallen(-1, 0), 40);
+    for (int i = 0; i < 40; i++) {
+      T.due("22: fallen(" + i + ", 0)", x.fallen(i, 0), i % 2);
+      T.due("22: fallen(" + i + ", 1)", x.fallen(i, 1), i / 2 + 1);
+      T.due("22: fallen(" + i + ", 2)", x.fallen(i, 2), 1);
+      T.due("22: fallen(" + i + ", 3)", x.fallen(i, 3), 1);
+    }
     T.due("22: the eldest", x.fallen(0, 1), 1);
     T.due("22: the eldest's bridge", x.fallen(0, 0), 0);
     T.due("22: the latest", x.fallen(39, 1), 20);
@@ -385,6 +392,31 @@ public final class BridgesTest {
     x.undo();
     T.due("18: forty falls ahead of it", x.fallen(-1, 0), 40);
     T.due("18: the eldest is there again", x.fallen(0, 1), 0);
+  }
+
+  private static void fallOfTheHighest() {
+    // Six bridges, the last bears all that can be borne: 12 loads of 60 and a stander of 60; holds is 99.
+    HummingBridges x = new HummingBridges();
+    for (int i = 0; i < 6; i++) x.bridge(7, 9);
+    x.ears(4, 5);
+    for (int i = 0; i < 12; i++) x.load(60, 5, 99);
+    x.stand(4, 1);
+    x.stand(5, 60);
+    Due.tell(x, "holds 99;tune 1=2;");
+    x.by(0);
+    x.hour(60);
+    x.hour(38);
+    for (int i = 0; i < 12; i++) x.go(i, 5);
+    T.due("6: both", x.hour(1), 2);
+    int[] want = {5, 98, 99, 780};
+    for (int i = 0; i < 4; i++) T.due("22: fallen(1, " + i + ")", x.fallen(1, i), want[i]);
+    HummingBridges y = twoFalse();
+    y.stand(1, 0);
+    for (int i = 0; i < 16; i++) y.hour(60);
+    y.hour(36);
+    y.stand(1, 1);
+    T.due("6: at the last", y.hour(3), 2);
+    T.due("22: hour", y.fallen(1, 1), 998);
   }
 
   private static void twos() {

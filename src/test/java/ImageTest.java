@@ -37,8 +37,11 @@ public final class ImageTest {
     x.load(4, 4, 4);
     x.string(0, 60);
     x.season(17, 30);
+    x.heard(-1, 0);
     x.heard(1, 1);
     x.army(-1);
+    x.army(10);
+    x.army(10);
     x.by(-1);
     x.hour(9);
     T.due("38: the hour", x.back(), 3);
@@ -55,6 +58,23 @@ public final class ImageTest {
     T.due("38: no ears", x.of(2, 9), 0);
     T.due("38: its string", x.of(2, 0), 7);
     T.due("38: orders by the army", x.orders(0, 1, -1), 1);
+    x.load(7, 0, 0);
+    x.mend(0);
+    T.due("38: what was heard: 7, which no load makes", x.worlds(2, -1, 0), 0);
+    x.by(-1);
+    x.heard(-1, 0);
+    x.heard(0, 17);
+    x.image();
+    x.heard(-1, 0);
+    x.heard(0, 99);
+    x.back();
+    x.undo();
+    x.undo();
+    x.undo();
+    x.undo();
+    x.undo();
+    x.undo();
+    T.due("38: heard as it was: 10 and 7", x.worlds(2, 0, 1), 0);
   }
 
   private static void textsAreGone() {

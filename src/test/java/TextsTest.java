@@ -7,6 +7,7 @@ public final class TextsTest {
     bytesInOrder();
     fourTexts();
     tokens();
+    leftovers();
     cantStand();
     numbers();
     depth();
@@ -106,6 +107,35 @@ public final class TextsTest {
     fault("go 1 onn 2;", 1, 5);
     fault("go 1 o n 2;", 1, 5);
     fault("noteload;", 1, 0);
+    for (String letter : new String[] {"a", "z", "A", "Z"}) {
+      fault("note load" + letter + ";", 1, 5);
+      fault("note " + letter + "load;", 1, 5);
+    }
+    for (String sign : new String[] {"`", "{", "@", "["}) fault("note load" + sign + ";", 1, 9);
+    for (String sign : new String[] {"/", ":"}) fault("note 1" + sign + ";", 1, sign.equals("/") ? 7 : 6);
+  }
+
+  /** What was on the tape behind its end, or in a text with a fault, doesn't count. */
+  private static void leftovers() {
+    HummingBridges x = new HummingBridges();
+    Due.feed(x, "note 12;");
+    x.end(6);
+    T.due("13: cut within a number", x.text(), -1);
+    T.due("15: at its end", x.fault(1), 6);
+    Due.feed(x, "note load;");
+    x.end(8);
+    T.due("13: cut within a word", x.text(), -1);
+    T.due("15: the rest is no word", x.fault(1), 5);
+    Due.feed(x, "tune 1<=2;");
+    x.end(7);
+    T.due("13: cut within a sign", x.text(), -1);
+    T.due("15: the end is missed", x.fault(1), 7);
+    fault(x, "tune not not not (((((1<2;", 1, 23);
+    for (int i = 0; i < 9; i++) fault(x, "note 1+2+3+4+5+6+7+8+9+1+2+3+4+5+6+7+8+9+1+2+3+4+5+6+7+8+9+1+2+3+4+5+6+7+8+9!", 1, 76);
+    T.due("14: a fine one", Due.tell(x, "holds ((((((((4+5))))))));"), 0);
+    x.bridge(1, 1);
+    x.by(0);
+    T.due("16: it rules", x.of(0, 7), 9);
   }
 
   private static void cantStand() {
@@ -383,6 +413,11 @@ public final class TextsTest {
     isTuned("2#3", true);
     isTuned("2#2", false);
     isTuned("not 2#2", true);
+    for (String so : new String[] {"1<2", "1<=2", "2>1", "2>=1", "1=1", "1#2"}) {
+      isTuned("not " + so, false);
+      isTuned(so + " and 1=1", true);
+      isTuned("1=2 or " + so, true);
+    }
     isTuned("not not 2#2", false);
     isTuned("1=1 or 1=2 and 1=2", true);
     isTuned("1=2 and 1=2 or 1=1", true);
