@@ -22,6 +22,7 @@ public final class AsksTest {
     tolls();
     resting();
     neverAtRest();
+    fortyTurns();
     nothingChanges();
     T.finish("AsksTest");
   }
@@ -534,6 +535,25 @@ public final class AsksTest {
     T.due("36: never", x.rest(3, -1), -1);
     T.due("36: nowhere", x.rest(3, 0), -1);
     T.due("36: alone it is", x.rest(1, -1), 2);
+  }
+
+  /** Six loads that take long to come to rest: found by searching. */
+  private static void restsLate(int want, String law, int[] bridges, int[] loads) {
+    HummingBridges x = bridges(bridges);
+    for (int i = 0; i < 18; i += 3) x.load(loads[i], loads[i + 1], loads[i + 2]);
+    rule(x, law);
+    T.due("36: rests late", x.rest(63, -1), want);
+    T.due("36: somewhere", x.rest(63, 5) == -1, want == -1);
+  }
+
+  private static void fortyTurns() {
+    restsLate(39, "toll (length*bridge+kind*many+many*load)%42;", new int[] {13, 4, 9, 9, 16, 6, 33, 6, 28, 8},
+      new int[] {43, 1, 9, 47, 3, 90, 60, 5, 16, 55, 5, 18, 2, 0, 73, 38, 1, 37});
+    restsLate(40, "toll (many*load+kind*length+length*bridge)%39;", new int[] {28, 5, 52, 7, 42, 5, 51, 2, 4, 2},
+      new int[] {20, 5, 94, 53, 0, 58, 22, 4, 23, 55, 5, 24, 34, 2, 86, 17, 2, 20});
+    // This one would rest behind the 41st turn.
+    restsLate(-1, "toll (kind*many+length*6+weight*load+sound*41)%64;", new int[] {47, 6, 47, 8, 21, 4, 55, 7, 46, 1, 49, 1},
+      new int[] {26, 3, 24, 59, 0, 29, 15, 5, 35, 1, 4, 90, 19, 3, 14, 12, 3, 91});
   }
 
   private static void nothingChanges() {
