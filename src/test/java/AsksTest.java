@@ -482,6 +482,12 @@ public final class AsksTest {
     T.due("34: FALSE with a third: 17 to 11; so the 1 first, then nobody", y.game(0, 1, 3, true), 1);
     y.stand(2, 2);
     T.due("34: each is FALSE with it", y.game(0, 1, 3, false), 0);
+    HummingBridges z = bridges(1, 1, 1, 1, 1, 1);
+    z.ears(0, 2);
+    z.stand(2, 20);
+    loads(z, 7, 10);
+    rule(z, "note many*10+load;tune up=1;");
+    T.due("34: what was tried and was FALSE counts no more", z.game(0, 1, 3, true), 1);
   }
 
   private static void tolls() {

@@ -66,7 +66,7 @@ public final class ImageTest {
     x.heard(0, 17);
     x.image();
     x.heard(-1, 0);
-    x.heard(0, 99);
+    x.heard(1, 99);
     x.back();
     x.undo();
     x.undo();
