@@ -579,9 +579,11 @@ public final class HummingBridges {
             row[DOWN + bridge] = 0;
         }
 
+        /** A draw is of X as it stands; the next X comes behind that. */
         int draw(int by) {
+            int drawn = by > 0 ? row[X] % by : 0;
             row[X] = (row[X] * 227 + 113) % 30169;
-            return by > 0 ? row[X] % by : 0;
+            return drawn;
         }
 
         void drawGoing() {
@@ -1448,7 +1450,8 @@ public final class HummingBridges {
             ear.hearAll();
             if (othersClash(set)) return NONE;
             dropClashing(set);
-            for (int cost = 0; cost <= count * REACH; cost++) {
+            int dearest = sharing ? count : count * REACH;
+            for (int cost = 0; cost <= dearest; cost++) {
                 if (choose(0, cost, weight)) return cost;
             }
             return NONE;

@@ -233,7 +233,7 @@ public final class BridgesTest {
     T.due("10: silent", x.of(0, 6), 0);
   }
 
-  private static int draw(int x) { return (x * 227 + 113) % 30169; }
+  private static int next(int x) { return (x * 227 + 113) % 30169; }
 
   private static void seasons() {
     HummingBridges x = new HummingBridges();
@@ -253,10 +253,10 @@ public final class BridgesTest {
     for (int seed = 0; seed < 40; seed++) {
       x.back();
       x.season(seed, 1);
-      int drawn = draw(seed * 3 + 23), second = draw(drawn), third = draw(second);
+      int first = seed * 3 + 23, second = next(first), third = next(second);
       T.due("11: one step", x.about(7), 4);
-      int d = drawn % 8;
-      T.due("11: X by seed " + seed, x.about(4), d < 4 ? third : d < 6 ? second : drawn);
+      int d = first % 8;
+      T.due("11: X by seed " + seed, x.about(4), d < 4 ? next(third) : d < 6 ? third : second);
       T.due("11: hour by seed " + seed, x.about(2), d > 5 ? 2 : 1);
       if (d < 4) T.due("11: goes by seed " + seed, x.ofLoad(second % 5, 3), third % 3);
       if (d == 4) T.due("11: mended by seed " + seed, x.of(second % 3, 2), 0);
@@ -265,6 +265,14 @@ public final class BridgesTest {
       T.due("11: X taken back", x.about(4), 23);
     }
     T.due("11: many", x.season(9999, 30) >= 0, true);
+    // Written out: X is 23, 5334, 4171: draws by 8 of 7, 6 and 3, of which the last finds nothing to draw from.
+    HummingBridges y = new HummingBridges();
+    y.season(0, 1);
+    T.due("11: the first draw is of 23", y.about(2), 1);
+    T.due("11: X behind one draw", y.about(4), 5334);
+    y.season(0, 3);
+    T.due("11: two hours more", y.about(2), 3);
+    T.due("11: X behind three draws", y.about(4), (4171 * 227 + 113) % 30169);
   }
 
   private static void seasonWithoutMuch() {
@@ -272,9 +280,9 @@ public final class BridgesTest {
     x.season(1, 30);
     int wanted = 26, hours = 0;
     for (int i = 0; i < 30; i++) {
-      wanted = draw(wanted);
       int d = wanted % 8;
-      if (d == 5) wanted = draw(wanted);
+      wanted = next(wanted);
+      if (d == 5) wanted = next(wanted);
       if (d > 5) hours++;
     }
     T.due("11: without bridges and loads nothing but frost is drawn", x.about(4), wanted);

@@ -475,7 +475,11 @@ final class Oracle {
     return true;
   }
 
-  int draw(int m) { now.state.x = (now.state.x * 227 + 113) % 30169; return now.state.x % m; }
+  int draw(int m) {
+    int drawn = now.state.x % m;
+    now.state.x = (now.state.x * 227 + 113) % 30169;
+    return drawn;
+  }
 
   int season(int seed, int n) {
     if (seed < 0 || seed > 9999 || n < 1 || n > 30) return NONE;
