@@ -14,6 +14,13 @@ final class Due {
     due(call, got ? 1 : 0, want ? 1 : 0);
   }
 
+  void same(String what, String got, String want) {
+    checked++;
+    if (got.equals(want)) return;
+    wrong++;
+    System.out.println(what + " is " + got + ", due is " + want);
+  }
+
   boolean anyWrong() {
     return wrong > 0;
   }
