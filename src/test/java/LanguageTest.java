@@ -8,6 +8,9 @@ import java.nio.file.Paths;
 import java.util.ArrayList;
 import java.util.Arrays;
 import java.util.List;
+import java.util.Map;
+import java.util.Set;
+import java.util.TreeMap;
 import java.util.TreeSet;
 import java.util.regex.Matcher;
 import java.util.regex.Pattern;
@@ -31,6 +34,7 @@ public final class LanguageTest {
     String bare = withoutComments(source);
     words(source, bare);
     sizes(bare);
+    depths(bare);
     nothingIsMade();
     T.finish("LanguageTest");
   }
@@ -98,6 +102,57 @@ public final class LanguageTest {
       T.due("rule 11: parameters of " + heads.group().trim(), heads.group(2).split(",").length <= 7, true);
     }
     T.due("rule 11: methods were seen", seen > 100, true);
+  }
+
+  private static String classOf(String bare, int place) {
+    Matcher heads = Pattern.compile("(?m)^(?:    private static|public) final class (\\w+)").matcher(bare);
+    String name = "";
+    while (heads.find() && heads.start() < place) name = heads.group(1);
+    return name;
+  }
+
+  /** Calls that are no recursion go at most eight deep: each method by CLASS.NAME, with the pieces of its text that call. */
+  private static void depths(String bare) {
+    Map<String, String> bodies = new TreeMap<>();
+    Matcher heads = Pattern.compile("(?m)^( +)(?:private |public |static )*[\\w\\[\\]]+ (\\w+)\\([^()]*\\) \\{$").matcher(bare);
+    while (heads.find()) {
+      int close = bare.indexOf("\n" + heads.group(1) + "}", heads.end());
+      bodies.put(classOf(bare, heads.start()) + "." + heads.group(2), bare.substring(heads.end(), close));
+    }
+    Map<String, Set<String>> calls = new TreeMap<>();
+    for (String method : bodies.keySet()) calls.put(method, callsOf(method, bodies));
+    int deepest = 0;
+    for (String method : bodies.keySet()) {
+      int deep = deepFrom(method, calls, new ArrayList<>());
+      T.due("rule 11: at most eight deep from " + method, deep <= 8, true);
+      deepest = Math.max(deepest, deep);
+    }
+    T.due("rule 11: calls were seen", deepest > 5, true);
+  }
+
+  /** By name alone: what is called of another object may be that of any class that has it. */
+  private static Set<String> callsOf(String method, Map<String, String> bodies) {
+    Set<String> found = new TreeSet<>();
+    Matcher calls = Pattern.compile("(\\w+\\.)?\\b(\\w+)\\(").matcher(bodies.get(method));
+    while (calls.find()) {
+      for (String other : bodies.keySet()) {
+        String home = other.substring(0, other.indexOf('.'));
+        boolean near = method.startsWith(home + ".") || home.equals("HummingBridges");
+        if (other.endsWith("." + calls.group(2)) && near == (calls.group(1) == null)) found.add(other);
+      }
+      if (calls.group(1) != null && "Math.Integer.Arrays.System.".contains(calls.group(1))) found.add(calls.group());
+    }
+    return found;
+  }
+
+  private static int deepFrom(String method, Map<String, Set<String>> calls, List<String> open) {
+    int deep = 0;
+    open.add(method);
+    for (String other : calls.getOrDefault(method, new TreeSet<>())) {
+      if (!open.contains(other)) deep = Math.max(deep, deepFrom(other, calls, open));
+    }
+    open.remove(open.size() - 1);
+    return deep + 1;
   }
 
   /** All rows are made with the object, and few: so no run, however long, fills the room. */
